@@ -1531,7 +1531,7 @@ public final class OldLift {
         }
 
         private int ruleOf(int car, int person, int time) {
-            int goals = goalsOf(car);
+            int goals = goalsOf(car, hasRoom(car));
             int ahead = plan.from[person] - floor[car];
             int[] facts = plan.rule.facts;
             facts[0] = Math.abs(ahead);
@@ -1610,8 +1610,8 @@ public final class OldLift {
             notOut &= ~who;
         }
 
-        private int goalsOf(int car) {
-            int waiters = hasRoom(car) ? waiting[car] : 0;
+        private int goalsOf(int car, boolean room) {
+            int waiters = room ? waiting[car] : 0;
             int goals = 0;
             for (int i = 0; i < plan.floors; i++) {
                 if ((inside[car] & toHere[i] | waiters & fromHere[i]) != 0) {
@@ -1626,7 +1626,7 @@ public final class OldLift {
                 heading[car] = 0;
                 move(car, Integer.compare(plan.park, floor[car]));
             } else {
-                heading[car] = wayTo(goalsOf(car), floor[car], heading[car]);
+                heading[car] = wayTo(goalsOf(car, hasRoom(car)), floor[car], heading[car]);
                 move(car, heading[car]);
             }
         }

@@ -24,6 +24,7 @@ public final class CircuitTest {
         stuck();
         thought();
         tests();
+        allLamps();
         withoutCircuit();
         CHECKS.end();
     }
@@ -243,6 +244,12 @@ public final class CircuitTest {
         CHECKS.due("58 comes behind tick 60", just.forgets(0, 60, 0), 0);
         CHECKS.due("59 ticks do not", just.forgets(0, 59, 0), 1);
         CHECKS.due("the second floor", just.forgets(1, 60, 0), 1);
+        // h stays on behind the first button, and then a button sets one less: a tick more is needed.
+        OldLift slower = lift(2, count.replace("(1-any)+any;relay b", "(1-any)+any*(1-h);relay b")
+            + "relay h=h or any;door=(1-a)*b*(1-c)*d*e*f;");
+        CHECKS.due("59 do not do from start", slower.forgets(0, 59, 1), 0);
+        CHECKS.due("60 do from start, not behind a button", slower.forgets(0, 60, 1), 1);
+        CHECKS.due("that button", slower.forgetsRow(0, 60, 0), 1);
     }
 
     private static void stuck() {
@@ -361,6 +368,27 @@ public final class CircuitTest {
         CHECKS.due("floors 1, 2, 3", split.thought(3), 14);
         CHECKS.due("two", split.tests(0), 2);
         CHECKS.due("none first", split.tests(1), 0);
+    }
+
+    /** All 256 sorts of lamps behind one tick: the relays shift, and shine while the door is open. */
+    private static void allLamps() {
+        StringBuilder lamps = new StringBuilder();
+        for (int i = 0; i < 8; i++) {
+            lamps.append("lamp " + i + "=open*" + (char) ('a' + i) + ";");
+        }
+        OldLift lift = lift(5, "relay a=call 0 or h;relay b=a;relay c=b;relay d=c;relay e=d;relay f=e;relay g=f;"
+            + "relay h=g and not call 1;up=call 2;down=call 3;door=call 4;" + lamps);
+        CHECKS.due("reached", lift.count(2), 256 * 5 * 2);
+        CHECKS.due("dark", lift.stuck(0), 256 * 5 + 5);
+        CHECKS.due("four ticks down are too many", lift.tests(0), NONE);
+        CHECKS.due("all on", lift.stuck(255), 5);
+        CHECKS.due("in all", lift.thought(1), 255);
+        CHECKS.due("no lamp tells the floor", lift.tests(0), NONE);
+        CHECKS.due("held open, all relays on", lift.tried(4, 255), 5);
+        CHECKS.due("shut", lift.tried(2, 0), 5);
+        CHECKS.due("up", lift.tried(2, 0), 4);
+        CHECKS.due("three more", lift.tests(0), 3);
+        CHECKS.due("by floor 2", lift.tests(1), 3);
     }
 
     private static void withoutCircuit() {

@@ -167,7 +167,7 @@ public final class TextsTest {
             {"up=1);", 1, 4}, {"up=far;", 1, 3}, {"up=A;", 1, 3}, {"up=12345;", 1, 3}, {"up=abcdefghi;", 1, 3},
             {"up=callx;", 1, 3}, {"up=i;", 1, 3}, {"up=a and or b;", 1, 9}, {"up=a not b;", 1, 5},
             {"up=not;", 1, 6}, {"up=a*;", 1, 5}, {"up=a**b;", 1, 5}, {"up=a<;", 1, 5}, {"up=a;b", 1, 5},
-            {"up=1,0;", 1, 4}, {";", 1, 0}, {"up=1;;", 1, 5}, {"and", 1, 0}, {"\n\n x", 1, 3}, {"upp=1;", 1, 0},
+            {"up=1,0;", 1, 4}, {"up=az;", 1, 3}, {"up=za;", 1, 3}, {";", 1, 0}, {"up=1;;", 1, 5}, {"and", 1, 0}, {"\n\n x", 1, 3}, {"upp=1;", 1, 0},
             {"up=1;never 1;lamp 0=$;relay a=1;relay a=1;", 1, 20},
         };
         for (Object[] fault : faults) {
