@@ -140,13 +140,9 @@ public final class OldLift {
     }
 
     public int rule() {
-        if (tape.length == 0) {
-            plan.rule.clear();
-            return 0;
-        }
         int fault = parser.readRule();
         if (fault == 0) {
-            plan.rule.copy(parser.draft);
+            plan.setRule(parser.draft);
         }
         return fault;
     }
@@ -273,11 +269,12 @@ public final class OldLift {
     }
 
     public int run() {
-        ride.simulate(NONE);
+        ride.catchUp();
         return ride.over;
     }
 
     public int rode(int person, int what) {
+        ride.catchUp();
         if (person < 0 || person >= ride.persons) {
             return NONE;
         }
@@ -291,6 +288,7 @@ public final class OldLift {
     }
 
     public int waits(int what) {
+        ride.catchUp();
         if (ride.persons == 0) {
             return NONE;
         }
@@ -304,14 +302,19 @@ public final class OldLift {
     }
 
     public int moved(int car, int part) {
-        if (car < 0 || car >= ride.cars || part < 0 || part >= machine.floors - 1) {
+        if (car < 0 || car >= plan.cars || part < 0 || part >= plan.floors - 1) {
             return NONE;
         }
+        ride.catchUp();
         return ride.passed[car][part];
     }
 
     public int stopped(int car) {
-        return car < 0 || car >= ride.cars ? NONE : ride.stops[car];
+        if (car < 0 || car >= plan.cars) {
+            return NONE;
+        }
+        ride.catchUp();
+        return ride.stops[car];
     }
 
     public int best(int aim, int what) {
@@ -392,7 +395,6 @@ public final class OldLift {
         machine.lines.clear();
         startCircuit();
         plan.startHouse(n);
-        ride.clear();
         cable.clear();
     }
 
@@ -656,8 +658,12 @@ public final class OldLift {
             return fault;
         }
 
+        /** Without any token the rule is an empty one: the draft has no line then. */
         int readRule() {
             start(true, 0);
+            if (kind == END) {
+                return 0;
+            }
             draft.beginLine(LINE_RULE);
             expression(0, 0);
             draft.endLine(LINE_RULE);
@@ -1363,13 +1369,25 @@ public final class OldLift {
         int persons;
         int holds;
         int fireTime;
+        // Rules are counted apart: the best of all ways does not ask for them.
         int changes;
+        private int rulings;
 
         void startHouse(int n) {
             floors = n;
             rule.clear();
             setCars(1, 4, 1, 0);
             dismiss();
+        }
+
+        void setRule(Code told) {
+            rule.copy(told);
+            rulings++;
+        }
+
+        /** Another number whenever anything was told that a run goes by. */
+        int tellings() {
+            return changes + rulings;
         }
 
         void setCars(int n, int size, int doorTicks, int parkFloor) {
@@ -1453,19 +1471,17 @@ public final class OldLift {
         private final int[] toHere = new int[FLOORS_MOST];
         private int coming;
         private int notOut;
+        private int shown = NONE;
 
         Trial(Plan plan) {
             this.plan = plan;
         }
 
-        /** As before any run: one car that did nothing, and nobody. */
-        void clear() {
-            cars = 1;
-            persons = 0;
-            over = 0;
-            Arrays.fill(stops, 0);
-            for (int car = 0; car < CARS_MOST; car++) {
-                Arrays.fill(passed[car], 0);
+        /** By all that is told now: a run of it that was made already is the same one. */
+        void catchUp() {
+            if (shown != plan.tellings()) {
+                shown = plan.tellings();
+                simulate(NONE);
             }
         }
 
@@ -1491,12 +1507,15 @@ public final class OldLift {
         }
 
         private void begin() {
-            clear();
             cars = plan.cars;
             persons = plan.persons;
             over = persons == 0 ? 0 : NONE;
             notOut = (1 << persons) - 1;
             coming = plan.nextComing(NONE);
+            Arrays.fill(stops, 0);
+            for (int car = 0; car < CARS_MOST; car++) {
+                Arrays.fill(passed[car], 0);
+            }
             Arrays.fill(given, NONE);
             Arrays.fill(timeIn, NONE);
             Arrays.fill(timeOut, NONE);

@@ -22,6 +22,7 @@ public final class CarsTest {
         tooLate();
         neverOver();
         thatRun();
+        thatRunByEach();
         best();
         bestBounds();
         CHECKS.end();
@@ -349,23 +350,74 @@ public final class CarsTest {
         CHECKS.due("and not out", lift.rode(10, 2), NONE);
     }
 
+    /** That run is the one by all that is told now, whether run was called, and whenever it was. */
     private static void thatRun() {
         OldLift lift = new OldLift();
+        CHECKS.due("nobody waits", lift.waits(0), NONE);
+        CHECKS.due("nobody moves it", lift.moved(0, 0), 0);
+        CHECKS.due("nor stops it", lift.stopped(0), 0);
         lift.person(0, 0, 1);
-        CHECKS.due("no run yet", lift.rode(0, 0), NONE);
-        CHECKS.due("no run yet", lift.waits(0), NONE);
-        lift.run();
+        ride(lift, 0, 0, 0, 3, 0);
+        CHECKS.due("out, without a call of run", lift.waits(3), 1);
+        CHECKS.due("moved, without a call of run", lift.moved(0, 0), 1);
+        CHECKS.due("stopped, without a call of run", lift.stopped(0), 2);
+        CHECKS.due("run", lift.run(), 3);
+        CHECKS.due("one more", lift.person(0, 1, 3), 1);
+        ride(lift, 1, 0, 3, 7, 3);
+        CHECKS.due("best tells nothing", lift.best(2, 0), 7);
+        CHECKS.due("whose", lift.waits(2), 1);
+        CHECKS.due("out", lift.waits(3), 2);
+        CHECKS.due("higher", lift.moved(0, 2), 1);
+        CHECKS.due("one stop more", lift.stopped(0), 3);
+        CHECKS.due("none such", lift.person(0, 1, 1), NONE);
+        CHECKS.due("that is no person", lift.rode(2, 0), NONE);
+    }
+
+    /** Each thing that can be told between run and what is asked of it. */
+    private static void thatRunByEach() {
+        OldLift lift = new OldLift();
+        lift.person(0, 0, 1);
         lift.person(0, 0, 3);
-        CHECKS.due("not in that run", lift.rode(1, 0), NONE);
-        CHECKS.due("best leaves that run", lift.best(2, 0), 7);
-        CHECKS.due("out", lift.rode(0, 2), 3);
-        CHECKS.due("stops", lift.stopped(0), 2);
+        CHECKS.due("run", lift.run(), 7);
+        lift.hold(1, 0, 5);
+        ride(lift, 0, 0, 0, 8, 0);
+        lift.cars(2, 1, 0, 3);
+        ride(lift, 0, 0, 0, 2, 0);
+        ride(lift, 1, 0, 4, 8, 4);
+        CHECKS.due("car 1 is there", lift.stopped(1), 0);
+        CHECKS.due("it goes to its park", lift.moved(1, 2), 1);
+        Texts.feed(lift, "0-idle");
+        lift.rule();
+        ride(lift, 1, 1, 0, 4, 0);
+        CHECKS.due("car 1 stops", lift.stopped(1), 2);
+        Texts.feed(lift, "0-idle-");
+        CHECKS.due("a fault", lift.rule(), 1 + 16 * 7);
+        CHECKS.due("the rule stays", lift.rode(1, 0), 1);
+        Texts.feed(lift, " \n");
+        CHECKS.due("blanks", lift.rule(), 0);
+        CHECKS.due("no rule", lift.rode(1, 0), 0);
+        lift.fire(1);
+        ride(lift, 0, 0, 0, 1, 0);
+        ride(lift, 1, 0, NONE, NONE, 900);
+        CHECKS.due("sum", lift.waits(0), 900);
+        CHECKS.due("out", lift.waits(3), 1);
+        CHECKS.due("up and down again", lift.moved(1, 0), 2);
+        lift.fire(NONE);
+        ride(lift, 1, 0, 4, 8, 4);
+        lift.cars(1, 1, 0, 3);
+        CHECKS.due("car 1 is gone", lift.moved(1, 0), NONE);
+        CHECKS.due("car 1 is gone", lift.stopped(1), NONE);
         lift.nobody();
-        CHECKS.due("that run stays", lift.rode(0, 2), 3);
-        CHECKS.due("that run stays", lift.waits(3), 1);
-        lift.run();
-        CHECKS.due("the new one", lift.rode(0, 2), NONE);
-        CHECKS.due("the new one", lift.stopped(0), 0);
+        CHECKS.due("no person", lift.rode(0, 0), NONE);
+        CHECKS.due("no person", lift.waits(3), NONE);
+        CHECKS.due("nothing moves", lift.moved(0, 0), 0);
+        CHECKS.due("no stop", lift.stopped(0), 0);
+        lift.person(0, 0, 1);
+        CHECKS.due("out", lift.rode(0, 2), 2);
+        lift.floors(5);
+        CHECKS.due("no person in the new house", lift.rode(0, 2), NONE);
+        CHECKS.due("nothing moves", lift.moved(0, 3), 0);
+        CHECKS.due("no stop", lift.stopped(0), 0);
     }
 
     private static void best() {

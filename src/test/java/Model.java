@@ -33,7 +33,6 @@ final class Model {
 
     /** What a run left behind. */
     static final class Ran {
-        int cars = 1;
         int over;
         List<Person> who = new ArrayList<>();
         int[] car = new int[0];
@@ -66,7 +65,6 @@ final class Model {
     private List<Person> persons;
     private List<Hold> holds;
     private int fire;
-    private Ran ran;
     private List<Trip> trips;
     private int slip;
     private int life;
@@ -87,7 +85,6 @@ final class Model {
         doors = 1;
         park = 0;
         nobody();
-        ran = new Ran();
         trips = new ArrayList<>();
         slip = 0;
         life = 1000;
@@ -334,7 +331,7 @@ final class Model {
     int rule() {
         String text = tape.toString();
         tape.setLength(0);
-        if (text.isEmpty()) {
+        if (text.replace("\n", "").replace(" ", "").isEmpty()) {
             rule = null;
             return 0;
         }
@@ -857,7 +854,6 @@ final class Model {
 
     private Ran ride(int way) {
         Ran r = new Ran();
-        r.cars = cars;
         r.who = new ArrayList<>(persons);
         r.car = filled(persons.size());
         r.in = filled(persons.size());
@@ -912,11 +908,11 @@ final class Model {
     }
 
     int run() {
-        ran = ride(NONE);
-        return ran.over;
+        return ride(NONE).over;
     }
 
     int rode(int person, int what) {
+        Ran ran = ride(NONE);
         if (person < 0 || person >= ran.who.size()) {
             return NONE;
         }
@@ -946,6 +942,7 @@ final class Model {
     }
 
     int waits(int what) {
+        Ran ran = ride(NONE);
         if (ran.who.isEmpty()) {
             return NONE;
         }
@@ -967,11 +964,11 @@ final class Model {
     }
 
     int moved(int car, int part) {
-        return car < 0 || car >= ran.cars || part < 0 || part > floors - 2 ? NONE : ran.passed[car][part];
+        return car < 0 || car >= cars || part < 0 || part > floors - 2 ? NONE : ride(NONE).passed[car][part];
     }
 
     int stopped(int car) {
-        return car < 0 || car >= ran.cars ? NONE : ran.stops[car];
+        return car < 0 || car >= cars ? NONE : ride(NONE).stops[car];
     }
 
     int best(int aim, int what) {

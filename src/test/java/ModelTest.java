@@ -94,6 +94,7 @@ public final class ModelTest {
     private void tellRule() {
         String text = random.nextInt(6) == 0 ? "" : Texts.expression(random, true, 2, 0);
         text = random.nextInt(4) == 0 ? Texts.broken(random, text) : text;
+        text = random.nextInt(10) == 0 ? " \n  ".substring(random.nextInt(4)) : text;
         feed(text);
         due("rule " + text, lift.rule(), model.rule());
     }

@@ -124,8 +124,9 @@ public final class RoomTest {
         for (int i = 0; i < 24; i++) {
             lift.person(300 - i, i % 2 * 5, 5 - i % 2 * 5);
         }
-        for (int calls = 26; calls < 512; calls++) {
-            lift.run();
+        for (int calls = 26; calls < 510; calls += 2) {
+            lift.fire(800 + calls % 100);
+            lift.rode(calls % 24, 2);
         }
         ended("many runs", madeAhead, timeAhead);
     }

@@ -244,7 +244,7 @@ public final class TextsTest {
         OldLift lift = new OldLift();
         Object[][] faults = {
             {"far +", 1, 5}, {"far;", 1, 3}, {"far far", 1, 4}, {"a", 1, 0}, {"call 1", 1, 0}, {"open", 1, 0},
-            {" ", 1, 1}, {"(far", 1, 4}, {"far)", 1, 3}, {"((((far))))", 0, 0}, {"(((((far)))))", 5, 5},
+            {" ~ ", 1, 1}, {" ;", 1, 1}, {" not\n", 1, 5}, {"(far", 1, 4}, {"far)", 1, 3}, {"((((far))))", 0, 0}, {"(((((far)))))", 5, 5},
             {"not not not not not far", 5, 20}, {"far<load<to", 1, 8}, {"up=far;", 1, 0}, {"10000", 1, 0},
             {"far+load*stops-toward and idle or floor<from+to=", 1, 47}, {"car = time", 0, 0}, {"far\n", 0, 0}};
         for (Object[] fault : faults) {
@@ -269,10 +269,23 @@ public final class TextsTest {
         CHECKS.due("an empty one", lift.rule(), 0);
         lift.run();
         CHECKS.due("no rule any more", lift.rode(0, 0), 0);
+        blankRules(lift);
         CHECKS.due("a circuit leaves the rule", ruleFault(lift, "car=0"), 0);
         faultOf(lift, "up=1;");
         lift.run();
         CHECKS.due("by the rule still", lift.rode(0, 0), 1);
+    }
+
+    /** Blanks alone, as many as one likes, are an empty rule, with a rule ahead and without one. */
+    private static void blankRules(OldLift lift) {
+        for (String blanks : new String[] {"", " ", "\n", " \n", "\n\n  \n", " ".repeat(1000), "\n".repeat(1000)}) {
+            CHECKS.due("blanks without a rule", ruleFault(lift, blanks), 0);
+            CHECKS.due("rule", ruleFault(lift, "0-car"), 0);
+            CHECKS.due("by the rule", lift.rode(0, 0), 1);
+            CHECKS.due("blanks behind a rule", ruleFault(lift, blanks), 0);
+            CHECKS.due("the tape is taken", lift.count(7), 0);
+            CHECKS.due("no rule any more", lift.rode(0, 0), 0);
+        }
     }
 
     /** Person 0 keeps car 0 busy (0 to 3, in at 0); the rule then picks a car for person 1. */
