@@ -957,18 +957,17 @@ public final class OldLift {
         private final Machine machine;
         private final int[] breaker = new int[NEVERS];
         private final int[][] forgetter = new int[FLOORS_MOST][PATIENCE_MOST + 1];
+        private final int[] state = new int[STATES_MOST];
+        private final int[] number = new int[STATE_CODES];
+        private final int[] parent = new int[STATES_MOST];
+        private final int[] button = new int[STATES_MOST];
+        private final int[] depth = new int[STATES_MOST];
+        private final int[] lamps = new int[STATES_MOST];
+        private final int[] next = new int[STATES_MOST * CHOICES];
+        private final int[] patienceFrom = new int[STATES_MOST];
+        private final int[] path = new int[STATES_MOST];
         private boolean known;
         private int size;
-        // These are large: they are made by the first call that needs them, and then kept.
-        private int[] state = new int[0];
-        private int[] number = new int[0];
-        private int[] parent = new int[0];
-        private int[] button = new int[0];
-        private int[] depth = new int[0];
-        private int[] lamps = new int[0];
-        private int[] next = new int[0];
-        private int[] patienceFrom = new int[0];
-        private int[] path = new int[0];
 
         Atlas(Machine machine) {
             this.machine = machine;
@@ -1007,7 +1006,6 @@ public final class OldLift {
             if (known) {
                 return;
             }
-            makeRoom();
             Arrays.fill(number, NONE);
             Arrays.fill(breaker, UNKNOWN);
             for (int floor = 0; floor < FLOORS_MOST; floor++) {
@@ -1022,21 +1020,6 @@ public final class OldLift {
                 }
             }
             known = true;
-        }
-
-        private void makeRoom() {
-            if (state.length == STATES_MOST) {
-                return;
-            }
-            state = new int[STATES_MOST];
-            number = new int[STATE_CODES];
-            parent = new int[STATES_MOST];
-            button = new int[STATES_MOST];
-            depth = new int[STATES_MOST];
-            lamps = new int[STATES_MOST];
-            next = new int[STATES_MOST * CHOICES];
-            patienceFrom = new int[STATES_MOST];
-            path = new int[STATES_MOST];
         }
 
         private int find(int code, int from, int pressed) {
@@ -1149,14 +1132,13 @@ public final class OldLift {
         private final Atlas atlas;
         private final int[] lampMark = new int[LAMPS_MOST + 1];
         private final int[] lampNote = new int[LAMPS_MOST + 1];
+        private final int[] held = new int[STATES_MOST];
+        private final int[] mark = new int[STATES_MOST];
+        private final int[] image = new int[STATES_MOST];
+        private final int[][] members = new int[TESTS_MOST - 1][STATES_MOST];
+        private final int[][] ends = new int[TESTS_MOST - 1][LAMPS_MOST + 1];
         private boolean planned;
         private int stamp;
-        // Large ones, made by the first call that needs them.
-        private int[] held = new int[0];
-        private int[] mark = new int[0];
-        private int[] image = new int[0];
-        private int[][] members = new int[0][0];
-        private int[][] ends = new int[0][0];
 
         Guess(Atlas atlas) {
             this.atlas = atlas;
@@ -1169,7 +1151,6 @@ public final class OldLift {
         }
 
         int start(int lamps) {
-            makeRoom();
             begun = true;
             planned = false;
             size = 0;
@@ -1181,17 +1162,6 @@ public final class OldLift {
                 }
             }
             return size;
-        }
-
-        private void makeRoom() {
-            if (held.length == STATES_MOST) {
-                return;
-            }
-            held = new int[STATES_MOST];
-            mark = new int[STATES_MOST];
-            image = new int[STATES_MOST];
-            members = new int[TESTS_MOST - 1][STATES_MOST];
-            ends = new int[TESTS_MOST - 1][LAMPS_MOST + 1];
         }
 
         int follow(int pressed, int lamps) {
