@@ -1,6 +1,8 @@
 /** Counts answers that are not the ones due. */
 final class Checks {
     private final String name;
+    private String sentence = "";
+    private int sentences;
     private int asked;
     private int wrong;
 
@@ -8,11 +10,27 @@ final class Checks {
         this.name = name;
     }
 
+    /** What is asked from now on is due by this sentence of the document. */
+    void by(String words) {
+        sentence = words;
+        sentences++;
+    }
+
     void due(String call, long got, long want) {
         asked++;
         if (got != want) {
             wrong++;
-            System.out.println(name + ": " + call + " answered " + got + ", due is " + want);
+            String source = sentence.isEmpty() ? "" : " by \"" + sentence + "\"";
+            System.out.println(name + ": " + call + " answered " + got + ", due is " + want + source);
+        }
+    }
+
+    void same(String what, String got, String want) {
+        asked++;
+        if (!got.equals(want)) {
+            wrong++;
+            String source = sentence.isEmpty() ? "" : " by \"" + sentence + "\"";
+            System.out.println(name + ": " + what + " is\n  " + got + "\ndue is\n  " + want + source);
         }
     }
 
@@ -25,7 +43,8 @@ final class Checks {
     }
 
     void end() {
-        System.out.println(name + ": " + asked + " answers, " + wrong + " wrong");
+        String told = sentences == 0 ? "" : " by " + sentences + " sentences";
+        System.out.println(name + ": " + asked + " answers" + told + ", " + wrong + " wrong");
         if (wrong != 0 || asked == 0) {
             System.exit(1);
         }

@@ -21,6 +21,34 @@ final class Texts {
         return there;
     }
 
+    static int readCircuit(OldLift lift, String text) {
+        feed(lift, text);
+        return lift.circuit();
+    }
+
+    static int readRule(OldLift lift, String text) {
+        feed(lift, text);
+        return lift.rule();
+    }
+
+    /** A new object with so many floors and this circuit, which must have no fault. */
+    static OldLift liftWith(int floors, String circuit) {
+        OldLift lift = new OldLift();
+        if (!lift.floors(floors) || readCircuit(lift, circuit) != 0) {
+            throw new IllegalArgumentException("the test's own circuit has a fault: " + circuit);
+        }
+        return lift;
+    }
+
+    /** A new object with this rule, which must have no fault. */
+    static OldLift liftByRule(String rule) {
+        OldLift lift = new OldLift();
+        if (readRule(lift, rule) != 0) {
+            throw new IllegalArgumentException("the test's own rule has a fault: " + rule);
+        }
+        return lift;
+    }
+
     static String expression(Random random, boolean rule, int floors, int depth) {
         StringBuilder text = new StringBuilder(test(random, rule, floors, depth));
         while (random.nextInt(3) == 0) {
