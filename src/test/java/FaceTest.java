@@ -82,11 +82,12 @@ public final class FaceTest {
         }
         methods.sort((a, b) -> a.getName().compareTo(b.getName()));
         int thrown = 0;
-        for (int seed = 0; seed < 300; seed++) {
+        for (int seed = 0; seed < 500; seed++) {
             Random random = new Random(seed);
             OldLift lift = new OldLift();
             Collections.shuffle(methods, random);
-            for (int i = 0; i < 512; i++) {
+            // With those that feed a circuit they are no more than 512.
+            for (int i = 0; i < 300; i++) {
                 if (i % 60 == 0) {
                     Texts.feed(lift, Texts.circuit(random, lift.count(0)));
                     lift.circuit();
