@@ -132,9 +132,9 @@ public final class ModelTest {
         int floor = aFloor();
         int button = pick(-1, model.count(0) - 1);
         int what = pick(0, 1);
-        int line = pick(0, 3);
+        int line = pick(0, Math.max(0, model.count(1) - 1));
         int patience = random.nextBoolean() ? pick(1, 60) : pick(1, 8);
-        int i = pick(0, 5);
+        int i = random.nextInt(4) == 0 ? pick(0, 20) : pick(0, 4);
         int lamps = random.nextInt(8) == 0 ? pick(0, 255) : model.lampsSeen(random, NONE, false);
         int lampsThen = random.nextInt(8) == 0 ? pick(0, 255) : model.lampsSeen(random, button, true);
         int half = random.nextInt(40);
@@ -202,7 +202,7 @@ public final class ModelTest {
             case 16: rareCall(); break;
             case 17: case 18: case 19: case 20: due("run", lift.run(), model.run()); break;
             case 21: case 22: case 23: case 24: case 25: case 26:
-                int person = pick(0, 8);
+                int person = pick(0, Math.max(0, model.count(4) - 1));
                 int what = pick(0, 3);
                 due("rode " + person + " " + what, lift.rode(person, what), model.rode(person, what));
                 break;

@@ -112,13 +112,13 @@ final class Texts {
             text.append(";\n");
         }
         text.append(lively ? livelyMoves(random, Math.min(relays, floors)) : wildMoves(random, floors));
-        int lamps = random.nextInt(4);
+        int lamps = random.nextInt(5);
         for (int i = 0; i < lamps; i++) {
             String simple = random.nextInt(3) == 0 ? "open" : String.valueOf((char) ('a' + random.nextInt(3)));
             String shown = random.nextBoolean() ? expression(random, false, floors, 2) : simple;
             text.append("lamp " + (i * 2 + random.nextInt(2)) + "=" + shown + ";");
         }
-        int nevers = random.nextInt(4);
+        int nevers = random.nextInt(6) == 0 ? 5 + random.nextInt(2) : random.nextInt(4);
         for (int i = 0; i < nevers; i++) {
             text.append(" never " + expression(random, false, floors, 2) + ";");
         }
